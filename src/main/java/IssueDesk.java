@@ -38,7 +38,7 @@ public final class IssueDesk {
     private final int[] claimCounts;
     private final int[] claimDays;
 
-    /** The newest check-ins that follow one another with the same difference, and the last issue of them. */
+    /** The newest check-ins that follow one another with the same difference; none once they made a shift. */
     private int streakLength;
     private int streakDifference;
     private int streakIssue;
@@ -283,10 +283,6 @@ public final class IssueDesk {
         return isIssue(issue) && issue < foretoldCount;
     }
 
-    private boolean hasState(int issue, int state) {
-        return isForetold(issue) && states[issue] == state;
-    }
-
     // ---- helpers: foretelling
 
     private int nextDay() {
@@ -333,13 +329,13 @@ public final class IssueDesk {
         }
     }
 
-    /** Whether a check-in follows is settled now: issues between that are skipped later don't count. */
+    /** Looked at now and never again, as issues between that are skipped later must not count. */
     private void noteDifference(int issue) {
         if (!isForetold(issue)) {
             return;
         }
         int difference = today - issueDays[issue];
-        boolean goesOn = streakLength > 0 && difference == streakDifference && followsStreak(issue);
+        boolean goesOn = difference == streakDifference && followsStreak(issue);
         streakLength = goesOn ? streakLength + 1 : 1;
         streakDifference = difference;
         streakIssue = issue;
@@ -354,7 +350,7 @@ public final class IssueDesk {
             return false;
         }
         for (int between = streakIssue + 1; between < issue && between < ISSUES; between++) {
-            if (!hasState(between, BOUND) && !hasState(between, SKIPPED)) {
+            if (!isForetold(between) || states[between] != BOUND && states[between] != SKIPPED) {
                 return false;
             }
         }
@@ -378,7 +374,7 @@ public final class IssueDesk {
     // ---- helpers: holdings
 
     private boolean isInHouse(int issue) {
-        return hasState(issue, HELD) || hasState(issue, BOUND);
+        return isForetold(issue) && (states[issue] == HELD || states[issue] == BOUND);
     }
 
     private boolean isRangeStart(int issue) {
