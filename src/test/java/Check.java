@@ -12,6 +12,9 @@ final class Check {
     static final Class<? extends RuntimeException> BAD_ARGUMENT = IllegalArgumentException.class;
     static final Class<? extends RuntimeException> BAD_STATE = IllegalStateException.class;
 
+    /** Numbers at which a sum or a product with an argument would wrap around. */
+    static final int[] FAR = {Integer.MIN_VALUE, Integer.MIN_VALUE + 1, Integer.MAX_VALUE - 1, Integer.MAX_VALUE};
+
     private static int compared = 0;
     private static int wrong = 0;
 
@@ -63,6 +66,11 @@ final class Check {
 
     static int wrongSoFar() {
         return wrong;
+    }
+
+    /** A fault that no comparison tells. */
+    static void fault(String what) {
+        tell(what);
     }
 
     private static void tell(String text) {

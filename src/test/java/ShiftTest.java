@@ -21,23 +21,6 @@ public final class ShiftTest {
         Check.end();
     }
 
-    /** Checks an issue in at so many days behind its day. */
-    private static void comeAt(IssueDesk desk, int issue, int bound, int difference) {
-        int days = desk.dayOf(issue) + difference - desk.day();
-        if (days > 0) {
-            desk.advance(days);
-        }
-        desk.checkIn(issue, bound);
-    }
-
-    /** A desk with all issues foretold, 10 days apart, so that the shift can only wait. */
-    private static IssueDesk allForetold() {
-        IssueDesk desk = new IssueDesk();
-        desk.setPattern(10, 12, true, 0);
-        desk.checkIn(199, 0);
-        return desk;
-    }
-
     private static void threeAlike() {
         IssueDesk desk = new IssueDesk();
         desk.advance(5);
@@ -73,10 +56,10 @@ public final class ShiftTest {
 
     private static void widths() {
         for (int difference = -17; difference <= 17; difference++) {
-            IssueDesk desk = allForetold();
+            IssueDesk desk = Stories.after(Stories::allForetold);
             desk.advance(20);
             for (int issue = 4; issue < 7; issue++) {
-                comeAt(desk, issue, 0, difference);
+                Stories.comeAt(desk, issue, 0, difference);
             }
             boolean counts = difference != 0 && difference >= -15 && difference <= 15;
             Check.same("10: difference " + difference, desk.shift(), counts ? difference : 0);
@@ -84,13 +67,13 @@ public final class ShiftTest {
     }
 
     private static void zeroIsNone() {
-        IssueDesk desk = allForetold();
+        IssueDesk desk = Stories.after(Stories::allForetold);
         for (int issue = 0; issue < 6; issue++) {
-            comeAt(desk, issue, 0, 0);
+            Stories.comeAt(desk, issue, 0, 0);
         }
         Check.same("10: in time", desk.shift(), 0);
         for (int issue = 6; issue < 9; issue++) {
-            comeAt(desk, issue, 0, 1);
+            Stories.comeAt(desk, issue, 0, 1);
         }
         Check.same("10: then a day late", desk.shift(), 1);
     }
@@ -139,132 +122,132 @@ public final class ShiftTest {
         desk.checkIn(10, 0);
         desk.setPattern(3, 12, true, 0);
         for (int issue = 1; issue < 4; issue++) {
-            comeAt(desk, issue, 0, -10);
+            Stories.comeAt(desk, issue, 0, -10);
         }
         return desk;
     }
 
     private static void otherDifferenceBeginsAnew() {
-        IssueDesk desk = allForetold();
-        comeAt(desk, 0, 0, 4);
-        comeAt(desk, 1, 0, 4);
-        comeAt(desk, 2, 0, 5);
+        IssueDesk desk = Stories.after(Stories::allForetold);
+        Stories.comeAt(desk, 0, 0, 4);
+        Stories.comeAt(desk, 1, 0, 4);
+        Stories.comeAt(desk, 2, 0, 5);
         Check.same("10: 4, 4, 5", desk.shift(), 0);
-        comeAt(desk, 3, 0, 5);
+        Stories.comeAt(desk, 3, 0, 5);
         Check.same("10: 4, 4, 5, 5", desk.shift(), 0);
-        comeAt(desk, 4, 0, 4);
-        comeAt(desk, 5, 0, 4);
+        Stories.comeAt(desk, 4, 0, 4);
+        Stories.comeAt(desk, 5, 0, 4);
         Check.same("10: 5, 5, 4, 4", desk.shift(), 0);
-        comeAt(desk, 6, 0, 4);
+        Stories.comeAt(desk, 6, 0, 4);
         Check.same("10: 4, 4, 4", desk.shift(), 4);
     }
 
     private static void waitedBetween() {
-        IssueDesk desk = allForetold();
-        comeAt(desk, 0, 0, 4);
-        comeAt(desk, 2, 0, 4);
-        comeAt(desk, 3, 0, 4);
+        IssueDesk desk = Stories.after(Stories::allForetold);
+        Stories.comeAt(desk, 0, 0, 4);
+        Stories.comeAt(desk, 2, 0, 4);
+        Stories.comeAt(desk, 3, 0, 4);
         Check.same("10: 0, 2, 3 while 1 waits", desk.shift(), 0);
-        comeAt(desk, 4, 0, 4);
+        Stories.comeAt(desk, 4, 0, 4);
         Check.same("10: 2, 3, 4", desk.shift(), 4);
     }
 
     private static void boundAndSkippedBetween() {
-        IssueDesk desk = allForetold();
-        comeAt(desk, 0, 2, 4);
+        IssueDesk desk = Stories.after(Stories::allForetold);
+        Stories.comeAt(desk, 0, 2, 4);
         desk.skip(4);
         desk.skip(5);
-        comeAt(desk, 3, 0, 4);
-        comeAt(desk, 6, 0, 4);
+        Stories.comeAt(desk, 3, 0, 4);
+        Stories.comeAt(desk, 6, 0, 4);
         Check.same("10: over bound and skipped ones", desk.shift(), 4);
     }
 
     private static void heldBetween() {
-        IssueDesk desk = allForetold();
-        comeAt(desk, 1, 0, 2);
-        comeAt(desk, 0, 0, 12);
-        comeAt(desk, 2, 0, 12);
-        comeAt(desk, 3, 0, 12);
+        IssueDesk desk = Stories.after(Stories::allForetold);
+        Stories.comeAt(desk, 1, 0, 2);
+        Stories.comeAt(desk, 0, 0, 12);
+        Stories.comeAt(desk, 2, 0, 12);
+        Stories.comeAt(desk, 3, 0, 12);
         // 1 is held between 0 and 2, so 2 doesn't follow 0
         Check.same("10: over a held one", desk.shift(), 0);
-        comeAt(desk, 4, 0, 12);
+        Stories.comeAt(desk, 4, 0, 12);
         Check.same("10: 2, 3, 4", desk.shift(), 12);
     }
 
     private static void skippedLaterDoesNotCount() {
-        IssueDesk desk = allForetold();
-        comeAt(desk, 0, 0, 4);
-        comeAt(desk, 2, 0, 4);
+        IssueDesk desk = Stories.after(Stories::allForetold);
+        Stories.comeAt(desk, 0, 0, 4);
+        Stories.comeAt(desk, 2, 0, 4);
         desk.skip(1);
-        comeAt(desk, 3, 0, 4);
+        Stories.comeAt(desk, 3, 0, 4);
         Check.same("10: 1 was waited for when 2 came", desk.shift(), 0);
-        comeAt(desk, 4, 0, 4);
+        Stories.comeAt(desk, 4, 0, 4);
         Check.same("10: 2, 3, 4", desk.shift(), 4);
     }
 
     private static void thirdMustFollow() {
-        IssueDesk desk = allForetold();
-        comeAt(desk, 0, 0, 4);
-        comeAt(desk, 1, 0, 4);
-        comeAt(desk, 3, 0, 4);
+        IssueDesk desk = Stories.after(Stories::allForetold);
+        Stories.comeAt(desk, 0, 0, 4);
+        Stories.comeAt(desk, 1, 0, 4);
+        Stories.comeAt(desk, 3, 0, 4);
         Check.same("10: 3 doesn't follow 1", desk.shift(), 0);
-        comeAt(desk, 4, 0, 4);
+        Stories.comeAt(desk, 4, 0, 4);
         Check.same("10: 3, 4", desk.shift(), 0);
-        comeAt(desk, 5, 0, 4);
+        Stories.comeAt(desk, 5, 0, 4);
         Check.same("10: 3, 4, 5", desk.shift(), 4);
     }
 
     private static void countsBeginAnew() {
-        IssueDesk desk = allForetold();
+        IssueDesk desk = Stories.after(Stories::allForetold);
         int[] due = {0, 0, 4, 4, 4, 8, 8, 8, 12};
         for (int issue = 0; issue < due.length; issue++) {
-            comeAt(desk, issue, 0, 4);
+            Stories.comeAt(desk, issue, 0, 4);
             Check.same("10: after issue " + issue, desk.shift(), due[issue]);
         }
     }
 
     private static void fourthNeedNotFollow() {
-        IssueDesk desk = allForetold();
+        IssueDesk desk = Stories.after(Stories::allForetold);
         for (int issue = 0; issue < 3; issue++) {
-            comeAt(desk, issue, 0, 4);
+            Stories.comeAt(desk, issue, 0, 4);
         }
         for (int issue = 10; issue < 13; issue++) {
-            comeAt(desk, issue, 0, 4);
+            Stories.comeAt(desk, issue, 0, 4);
         }
         Check.same("10: three, and three elsewhere", desk.shift(), 8);
     }
 
     private static void boundDoNotCount() {
-        IssueDesk desk = allForetold();
-        comeAt(desk, 0, 2, 4);
+        IssueDesk desk = Stories.after(Stories::allForetold);
+        Stories.comeAt(desk, 0, 2, 4);
         Check.same("10: one with two bound", desk.shift(), 0);
-        comeAt(desk, 3, 5, 4);
+        Stories.comeAt(desk, 3, 5, 4);
         Check.same("10: two with seven bound", desk.shift(), 0);
-        comeAt(desk, 9, 1, 4);
+        Stories.comeAt(desk, 9, 1, 4);
         Check.same("10: three with eight bound", desk.shift(), 4);
     }
 
     private static void shiftsAddUp() {
-        IssueDesk desk = allForetold();
+        IssueDesk desk = Stories.after(Stories::allForetold);
         for (int issue = 2; issue < 5; issue++) {
-            comeAt(desk, issue, 0, -7);
+            Stories.comeAt(desk, issue, 0, -7);
         }
         Check.same("10: shift", desk.shift(), -7);
         for (int issue = 5; issue < 8; issue++) {
-            comeAt(desk, issue, 0, 9);
+            Stories.comeAt(desk, issue, 0, 9);
         }
         Check.same("10: shift", desk.shift(), 2);
     }
 
     private static void throwDoesNotCount() {
-        IssueDesk desk = allForetold();
-        comeAt(desk, 0, 0, 4);
-        comeAt(desk, 1, 0, 4);
+        IssueDesk desk = Stories.after(Stories::allForetold);
+        Stories.comeAt(desk, 0, 0, 4);
+        Stories.comeAt(desk, 1, 0, 4);
         Check.fails("10: twice", Check.BAD_STATE, () -> desk.checkIn(1, 0));
         Check.fails("10: bound", Check.BAD_ARGUMENT, () -> desk.checkIn(2, 9));
         Check.fails("10: issue", Check.NO_INDEX, () -> desk.checkIn(200, 0));
         Check.same("10: shift", desk.shift(), 0);
-        comeAt(desk, 2, 0, 4);
+        Stories.comeAt(desk, 2, 0, 4);
         Check.same("10: throws don't break the run", desk.shift(), 4);
     }
 }
