@@ -322,7 +322,7 @@ public final class IssueDesk {
     }
 
     private void takeIn(int first, int last) {
-        for (int issue = first; issue <= last; issue++) {
+        for (int issue = first; issue <= last && issue < ISSUES; issue++) {
             if (isForetold(issue)) {
                 states[issue] = issue == first ? HELD : BOUND;
             }
